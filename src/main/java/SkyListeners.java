@@ -751,13 +751,10 @@ public final class SkyListeners {
             return log.number(i, LOG_NOTE) == note && log.number(i, LOG_IS) == is;
         }
 
-        private int placeLogged(int i) {
-            return placeSeen(log.number(i, LOG_DISH), log.number(i, LOG_HOUR));
-        }
-
         boolean isHeardElsewhere(int note, int place) {
             for (int i = 0; i < log.many; i++) {
-                if (isLogged(i, note, 1) && placeLogged(i) != place) {
+                int seen = placeSeen(log.number(i, LOG_DISH), log.number(i, LOG_HOUR));
+                if (seen != place && isLogged(i, note, 1)) {
                     return true;
                 }
             }
@@ -768,8 +765,9 @@ public final class SkyListeners {
         int hoursLogged(int note, int place, int is) {
             int hours = 0;
             for (int i = 0; i < log.many; i++) {
-                if (isLogged(i, note, is) && placeLogged(i) == place) {
-                    hours |= 1 << log.number(i, LOG_HOUR);
+                int hour = log.number(i, LOG_HOUR);
+                if (isLogged(i, note, is) && placeSeen(log.number(i, LOG_DISH), hour) == place) {
+                    hours |= 1 << hour;
                 }
             }
             return hours;

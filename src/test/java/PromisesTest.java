@@ -146,6 +146,8 @@ public final class PromisesTest {
         fault("dis", 0);
         fault("dishes 1;", 0);
         fault("d ish 1;", 0);
+        fault("dishz 1;", 0);
+        fault("fish 1;", 0);
         fault(";", 0);
         fault("7", 0);
         fault("dish 1;x", 7);
@@ -204,6 +206,8 @@ public final class PromisesTest {
             c.due("6 dish " + wrong, x.hears(wrong, 0), BAD);
             c.due("6 hour " + wrong, x.hears(0, wrong), BAD);
         }
+        SkyListeners many = Checks.told("dish 0;speaker 0 1 0 9;speaker 0 2 0 9;noise 3 4 0;noise 4 8 0;");
+        c.due("6 two speakers, two noises", many.hears(0, 8), 1 << 1 | 1 << 2 | 1 << 3 | 1 << 4);
         x.turn(1, 3);
         c.due("6 as mounted now", x.hears(1, 8), 1 << 2);
     }
@@ -291,6 +295,10 @@ public final class PromisesTest {
         c.due("11 in vain, two", x.twice(1), 2);
         x.turn(0, 3);
         c.due("11 in vain as mounted now", x.twice(1), 5);
+        SkyListeners soon = Checks.told("dish 4;asker 4 1;");
+        soon.lend(0, 0, 0);
+        soon.lend(0, 0, 0);
+        c.due("11 the second of two", soon.twice(0), 1);
         c.due("11 what 2", x.twice(2), BAD);
         for (int wrong : WRONG) {
             c.due("11 what " + wrong, x.twice(wrong), BAD);
@@ -316,11 +324,12 @@ public final class PromisesTest {
         c.due("12 none", x.undo(), STATE);
         c.due("12 the log stays", x.count(5), 1);
         for (int i = 0; i < 11; i++) {
-            x.turn(0, i % 2);
+            x.turn(0, i * 3 % 8);
         }
         c.due("12 ten are known", x.count(6), 10);
         for (int left = 9; left >= 0; left--) {
             c.due("12 ten undone", x.undo(), left);
+            c.due("12 one mount back", x.looks(0, 0), left * 3 % 8);
         }
         c.due("12 the oldest is lost", x.looks(0, 0), 0);
         c.due("12 none more", x.undo(), STATE);
@@ -352,6 +361,8 @@ public final class PromisesTest {
         c.due("13 what 2", x.best(0, 0, 2), BAD);
         c.due("13 what -1", x.best(0, 0, -1), BAD);
         wrongHours("13", x, (a, b) -> x.best(a, b, 0));
+        SkyListeners first = Checks.told("dish 3;asker 3 4;asker 3 4;");
+        c.due("13 the first of equals", first.best(0, 0, 1), 1);
         SkyListeners two = Checks.told("dish 3;dish 3;asker 3 4;asker 3 4;asker 3 4;");
         c.due("13 two dishes", two.best(0, 0, 0), 8);
         c.due("13 two dishes: least bits", two.best(0, 0, 1), 3);
@@ -369,6 +380,9 @@ public final class PromisesTest {
         x.turn(0, 7);
         c.due("14 as mounted now: upper", x.chance(0, 0, 0), 1);
         c.due("14 as mounted now: lower", x.chance(0, 0, 1), 5);
+        SkyListeners two = Checks.told("dish 0;dish 4;asker 0 5;asker 4 5;");
+        c.due("14 two dishes: upper", two.chance(0, 0, 0), 3);
+        c.due("14 two dishes: lower", two.chance(0, 0, 1), 4);
         c.due("14 what 2", x.chance(0, 0, 2), BAD);
         c.due("14 what -1", x.chance(0, 0, -1), BAD);
         wrongHours("14", x, (a, b) -> x.chance(a, b, 1));
@@ -389,6 +403,8 @@ public final class PromisesTest {
         x.turn(1, 5);
         c.due("15 as mounted now", x.apart(0, 2, 0), NONE);
         c.due("15 later hours count alike", x.apart(16, 22, 1), 1);
+        c.due("15 six places", Checks.told("dish 6;").apart(0, 5, 0), NONE);
+        c.due("15 seven places, not the first", Checks.told("dish 7;").apart(0, 6, 0), 1);
         c.due("15 what 2", x.apart(0, 6, 2), BAD);
         c.due("15 what -1", x.apart(0, 6, -1), BAD);
         wrongHours("15", x, (a, b) -> x.apart(a, b, 0));
