@@ -15,9 +15,15 @@ final class Checks {
         due(what, so ? 1 : 0, 1);
     }
 
+    // eight bytes a call: nothing is promised of an object after its 512th call
     static void type(SkyListeners x, String text) {
-        for (int i = 0; i < text.length(); i++) {
-            x.type(text.charAt(i), 1);
+        for (int i = 0; i < text.length(); i += 8) {
+            int n = Math.min(8, text.length() - i);
+            long v = 0;
+            for (int k = 0; k < n; k++) {
+                v = v << 8 | text.charAt(i + k);
+            }
+            x.type(v, n);
         }
     }
 

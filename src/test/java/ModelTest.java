@@ -1,7 +1,12 @@
 /** Long runs of calls, many of them wrong, answered by the class and by the model alike. */
 public final class ModelTest {
     private static final int RUNS = 1500;
+    // nothing is promised of an object after its 512th call
     private static final int CALLS = 512;
+    private static final int LAST_LOOK = 320;
+    private static final int LONGEST_STEP = 100;
+    // some more than the text has room for
+    private static final int LONGEST_TEXT = 266;
     private static final int[] FAR = {-1, -2, 24, 10, 8, 255, Integer.MAX_VALUE, Integer.MIN_VALUE, Integer.MIN_VALUE + 23};
 
     private final Checks c;
@@ -9,6 +14,7 @@ public final class ModelTest {
     private final Model m = new Model();
     private final int run;
     private long seed;
+    private int calls = 0;
 
     private ModelTest(Checks c, int run) {
         this.c = c;
@@ -35,22 +41,37 @@ public final class ModelTest {
     }
 
     private void same(String call, long got, long want) {
+        calls++;
         c.due("run " + run + ": " + call, got, want);
     }
 
     private void go() {
+        boolean looksBack = run % 4 == 0;
+        int ends = looksBack ? CALLS - LAST_LOOK : CALLS;
         tell(goodText());
-        for (int i = 0; i < CALLS; i++) {
-            int kind = below(100);
-            if (kind < 2) {
-                tell(below(3) == 0 ? goodText() : spoil(goodText()));
-            } else if (kind < 55) {
-                change();
-            } else {
-                ask();
-            }
+        while (calls < ends - LONGEST_STEP) {
+            step();
         }
-        everything();
+        while (calls < ends - 1) {
+            ask();
+        }
+        if (looksBack) {
+            everything();
+        }
+        if (calls > CALLS) {
+            throw new IllegalStateException("run " + run + " has " + calls + " calls");
+        }
+    }
+
+    private void step() {
+        int kind = below(100);
+        if (kind < 2) {
+            tell(below(3) == 0 ? goodText() : spoil(goodText()));
+        } else if (kind < 55) {
+            change();
+        } else {
+            ask();
+        }
     }
 
     private int span(int least, int most) {
@@ -105,7 +126,7 @@ public final class ModelTest {
                 }
             }
         }
-        return spoilt.toString();
+        return spoilt.substring(0, Math.min(spoilt.length(), LONGEST_TEXT));
     }
 
     private void tell(String text) {
@@ -122,7 +143,7 @@ public final class ModelTest {
         if (below(3) > 0) {
             same("clear()", x.clear(), m.clear());
         }
-        if (x.count(0) == 0 && below(4) > 0) {
+        if (m.count(0) == 0 && below(4) > 0) {
             same("clear()", x.clear(), m.clear());
             String dishes = "dish 3;dish 6;asker 6 2;asker 2 5;";
             for (int i = 0; i < dishes.length(); i++) {
@@ -133,9 +154,9 @@ public final class ModelTest {
     }
 
     private void change() {
-        int d = near(Math.max(x.count(0), 1));
+        int d = near(Math.max(m.count(0), 1));
         int h = near(24);
-        int a = near(Math.max(x.count(3), 1));
+        int a = near(Math.max(m.count(3), 1));
         int note = below(3) == 0 ? near(10) : 4;
         switch (below(12)) {
             case 0, 1 -> {
@@ -165,7 +186,7 @@ public final class ModelTest {
     }
 
     private void ask() {
-        int d = near(Math.max(x.count(0), 1));
+        int d = near(Math.max(m.count(0), 1));
         int h = near(24);
         int a = near(24);
         int b = below(8) == 0 ? near(24) : a >= 0 && a < 24 ? span(a, 23) : near(24);
